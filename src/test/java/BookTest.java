@@ -127,6 +127,9 @@ public final class BookTest {
         deadIn(x, 21, 0);
         deadIn(x, 29, 1);
         deadIn(x, 30, 5);
+        x.die(3, 1);
+        deadIn(x, 1, 8);
+        deadIn(x, 30, 13);
         StoryCoroner all = Check.book(8, 0);
         for (int character = 0; character < 8; character++) {
             all.die(character, 30);
@@ -147,6 +150,8 @@ public final class BookTest {
         Check.due("darkest(0) without deaths", x.darkest(0), 1);
         Check.due("darkest(1) without deaths", x.darkest(1), 0);
         x.die(0, 4);
+        Check.due("darkest(0) with one death", x.darkest(0), 4);
+        Check.due("darkest(1) with one death", x.darkest(1), 1);
         x.rise(0, 9);
         x.die(1, 8);
         Check.due("darkest(0)", x.darkest(0), 8);

@@ -130,6 +130,20 @@ public final class CharactersTest {
         x.die(0, 6);
         Check.due("the new death is not solved", x.deathOf(0, 0, 1), StoryCoroner.NOTHING);
         Check.due("culprit of none", x.characterOf(1, 4), 0);
+        laterVerdicts();
+    }
+
+    private static void laterVerdicts() {
+        StoryCoroner x = Check.book(2, 0);
+        Check.read(x, "m10=9;j0=1;d0@2;r0@4;d0@6;r0@8;d0@10;t100;t101;t102");
+        for (int left = 2; left >= 0; left--) {
+            x.strike(0);
+            Check.due("solved deaths", x.account(4), left);
+            Check.due("culprit of", x.characterOf(1, 4), left);
+            x.strike(0);
+        }
+        Check.read(x, "d0@2;r0@4;d0@6;r0@8;d0@10");
+        Check.due("none of the new ones is solved", x.account(4), 0);
     }
 
     private static void write() {

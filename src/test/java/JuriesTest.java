@@ -8,6 +8,7 @@ public final class JuriesTest {
         trialByMajority();
         trialStaysSolved();
         suspect();
+        suspectWithMostPages();
         suspectInTheFirstChapter();
         guilty();
         would();
@@ -154,6 +155,21 @@ public final class JuriesTest {
         x.strike(3);
         x.rise(3, 10);
         suspects(x, 4);
+    }
+
+    private static void suspectWithMostPages() {
+        StoryCoroner x = Check.book(4, 0);
+        x.die(3, 10);
+        x.motive(0, 3, 1);
+        Check.due("suspect", x.suspect(3, 0), 0);
+        Check.due("suspectAgain", x.suspectAgain(3, 0), 0);
+        x.motive(1, 3, 8);
+        x.motive(2, 3, 9);
+        Check.due("the most pages", x.suspect(3, 0), 2);
+        Check.due("the most pages", x.suspectAgain(3, 0), 2);
+        x.motive(0, 3, 9);
+        Check.due("of several the lowest", x.suspect(3, 0), 0);
+        Check.due("of several the lowest", x.suspectAgain(3, 0), 0);
     }
 
     private static void suspects(StoryCoroner x, int want) {

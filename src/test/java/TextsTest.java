@@ -55,6 +55,8 @@ public final class TextsTest {
         Check.due("with one of them", Check.line(x), "14:2");
         x.tellChapter(9);
         Check.due("with nobody", Check.line(x), "9:");
+        x.tellChapter(10);
+        Check.due("two digits", Check.line(x), "10:2");
         for (int character = 0; character < 8; character++) {
             x.die(character, 30);
         }

@@ -2,6 +2,7 @@
 public final class UndoTest {
     public static void main(String[] args) {
         undoEachChange();
+        undoAfterAStrike();
         undoTheLatestEight();
         undoCountsSuccessesOnly();
         undoLeavesTextLineReasons();
@@ -13,7 +14,7 @@ public final class UndoTest {
 
     private static StoryCoroner told() {
         StoryCoroner x = Check.book(2, 1);
-        Check.read(x, "d0@3;r0@6;m10=4;j0=9;w3@0");
+        Check.read(x, "d0@3;r0@6;m10=4;j0=9;w3@0;d1@5");
         return x;
     }
 
@@ -39,7 +40,7 @@ public final class UndoTest {
 
     private static void undoEachChange() {
         Check.due("undo of nothing", new StoryCoroner().undo(), StoryCoroner.NOTHING);
-        String[] changes = {"c", "a", "d0@9", "d1@9", "x0", "w3@0;x0", "w4@0", "o0+", "m10=0", "m01=9", "j1=1",
+        String[] changes = {"c", "a", "d0@9", "r1@9", "x0", "w3@0;x0", "w4@0", "o0+", "m10=0", "m01=9", "j1=1",
             "j0-", "t100", "j0-;j0=1;t100", "r0@8"};
         for (String change : changes) {
             StoryCoroner x = told();
@@ -79,9 +80,7 @@ public final class UndoTest {
             case 2:
                 return x.die(0, 20);
             case 3:
-                x.die(0, 20);
-                x.undo();
-                return x.die(1, 20);
+                return x.rise(1, 20);
             case 4:
                 return x.strike(0);
             case 5:
@@ -97,6 +96,21 @@ public final class UndoTest {
             default:
                 return x.trial(1, 0, 0);
         }
+    }
+
+    /** What was struck out is there again, even if another turn has come in its place. */
+    private static void undoAfterAStrike() {
+        StoryCoroner x = told();
+        String before = state(x);
+        x.strike(0);
+        x.rise(0, 9);
+        x.undo();
+        x.undo();
+        Check.due("state", state(x), before);
+        x.save();
+        Check.read(x, "x0;x0;d0@5;r0@7");
+        x.restore();
+        Check.due("state", state(x), before);
     }
 
     private static void undoTheLatestEight() {
@@ -131,6 +145,13 @@ public final class UndoTest {
         Check.due("one change", x.account(10), 1);
         Check.due("undo", x.undo(), 0);
         Check.due("no characters", x.account(0), 0);
+        x.author();
+        x.character();
+        Check.due("one of two", x.undo(), 1);
+        Check.due("the other one is there", x.account(1), 1);
+        x.author();
+        Check.due("one of two", x.undo(), 1);
+        Check.due("one author", x.account(1), 1);
     }
 
     private static void undoLeavesTextLineReasons() {
