@@ -8,8 +8,9 @@ import java.util.Random;
 
 /** Promises 1 to 37: long runs of calls, each answered by the class as by the model. */
 public final class ModelTest {
-    private static final int RUNS = 400;
+    private static final int RUNS = 1600;
     private static final int CALLS = 512;
+    private static final int LAST_LOOK = 200;
     private static final int[] EXTREMES = {Integer.MIN_VALUE, Integer.MAX_VALUE, -1, 0x40000000, -0x40000000, 1 << 29};
     private static final String[] CHANGES = {"character", "author", "die", "rise", "strike", "write", "swear", "motive",
         "seat", "leave", "trial"};
@@ -20,6 +21,7 @@ public final class ModelTest {
     private final List<Method> calls = new ArrayList<>();
     private final List<String> story = new ArrayList<>();
     private boolean isWrong;
+    private int made;
 
     private ModelTest(long seed) {
         random = new Random(seed);
@@ -34,32 +36,28 @@ public final class ModelTest {
     public static void main(String[] args) throws Exception {
         for (int run = 0; run < RUNS; run++) {
             ModelTest test = new ModelTest(run);
-            test.run(run % 4);
+            test.run(run % 4, run / 4 % 5);
             Check.due("run " + run + " is as the model's", test.isWrong ? 1 : 0, 0);
         }
         Check.close("ModelTest");
     }
 
-    /** Kinds of runs: 0 and 1 from an early start, 2 with texts, 3 with any numbers. */
-    private void run(int kind) throws Exception {
+    /** Kinds of runs: 0 and 1 from an early start, 2 with texts, 3 with any numbers; the rest looks at what stands. */
+    private void run(int kind, int angle) throws Exception {
         if (kind != 3) {
             start();
         }
-        for (int k = 0; k < CALLS && !isWrong; k++) {
+        while (made < CALLS - LAST_LOOK && !isWrong) {
             int dice = random.nextInt(100);
             if (kind == 2 && dice < 25) {
                 text();
-            } else if (dice < 55) {
-                String name = CHANGES[random.nextInt(CHANGES.length)];
-                both(named(name), kind == 3);
-                if (dice < 10) {
-                    tellAll();
-                }
+            } else if (dice < 60) {
+                both(named(CHANGES[random.nextInt(CHANGES.length)]), kind == 3);
             } else {
                 both(calls.get(random.nextInt(calls.size())), kind == 3);
             }
         }
-        tellAll();
+        look(angle);
     }
 
     private void start() throws Exception {
@@ -96,9 +94,10 @@ public final class ModelTest {
     }
 
     private void compare(Method call, Object... numbers) throws Exception {
-        if (isWrong) {
+        if (isWrong || made == CALLS) {
             return;
         }
+        made++;
         int want = (int) Model.class.getMethod(call.getName(), call.getParameterTypes()).invoke(model, numbers);
         String told = call.getName() + Arrays.toString(numbers);
         try {
@@ -223,35 +222,80 @@ public final class ModelTest {
         }
     }
 
-    /** All that can be asked, and the lines. */
-    private void tellAll() throws Exception {
+    /** An object is used for 512 calls at most, so that each run looks from one angle. */
+    private void look(int angle) throws Exception {
+        compare(named("isWell"));
+        compare(named("share"));
+        switch (angle) {
+            case 0:
+                lookAtCharacters();
+                break;
+            case 1:
+                lookAtJuries();
+                break;
+            case 2:
+                lookAtChapters();
+                break;
+            case 3:
+                lookAtLines();
+                break;
+            default:
+                lookAtSums();
+                break;
+        }
+    }
+
+    private void lookAtCharacters() throws Exception {
         for (int c = -1; c <= 8; c++) {
             for (int what = -1; what <= 7; what++) {
                 compare(named("characterOf"), c, what);
             }
-            for (int d = -1; d <= 3; d++) {
-                for (int what = -1; what <= 5; what++) {
-                    compare(named("deathOf"), c, d, what);
-                }
-                compare(named("suspect"), c, d);
-                compare(named("suspectAgain"), c, d);
-                for (int k = 0; k < 8; k++) {
-                    compare(named("guilty"), k, c, d);
-                    compare(named("would"), random.nextInt(7), 1 + random.nextInt(9), k, c, d);
-                }
-            }
             for (int k = 0; k < 8; k++) {
                 compare(named("pages"), c, k);
             }
-            line(named("tellCharacter"), c);
         }
+    }
+
+    private void lookAtJuries() throws Exception {
+        for (int c = 7; c >= 0; c--) {
+            for (int d = 0; d < 2; d++) {
+                compare(named("suspect"), c, d);
+                compare(named("suspectAgain"), c, d);
+                for (int k = 0; k < 4; k++) {
+                    int tried = random.nextInt(8);
+                    compare(named("guilty"), tried, c, d);
+                    compare(named("would"), random.nextInt(7), 1 + random.nextInt(9), tried, c, d);
+                }
+            }
+        }
+    }
+
+    private void lookAtChapters() throws Exception {
         for (int chapter = 0; chapter <= 31; chapter++) {
             compare(named("dead"), chapter);
             compare(named("deadAgain"), chapter);
-            line(named("tellChapter"), chapter);
         }
+        compare(named("darkest"), 0);
+        compare(named("darkest"), 1);
+        for (int c = 0; c < 8; c++) {
+            for (int d = 0; d < 3; d++) {
+                for (int what = 0; what < 5; what++) {
+                    compare(named("deathOf"), c, d, what);
+                }
+            }
+        }
+    }
+
+    private void lookAtLines() throws Exception {
         line(named("tellJury"));
-        for (int kind = 0; kind <= 12; kind++) {
+        for (int k = 0; k < 4; k++) {
+            line(named("tellCharacter"), random.nextInt(8));
+            line(named("tellChapter"), 1 + random.nextInt(30));
+        }
+    }
+
+    private void lookAtSums() throws Exception {
+        for (int kind = -1; kind <= 11; kind++) {
             compare(named("account"), kind);
             for (int place = -1; place <= 8; place++) {
                 compare(named("ranked"), kind, place);
@@ -262,10 +306,6 @@ public final class ModelTest {
                 compare(named("authorOf"), a, what);
             }
         }
-        compare(named("darkest"), 0);
-        compare(named("darkest"), 1);
-        compare(named("isWell"));
-        compare(named("share"));
     }
 
     private void line(Method call, Object... numbers) throws Exception {

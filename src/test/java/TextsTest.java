@@ -1,331 +1,384 @@
-/** Promises 25 to 34: lines, texts, reasons, accounts. */
+/** Promises 25 to 29 and 31 to 34: lines, the text, reasons, accounts, shares. */
 public final class TextsTest {
+    private static final int NONE = Check.NONE;
+    private static final int BAD = Check.BAD;
+    private static final int NOTHING = Check.NOTHING;
+
     public static void main(String[] args) {
         tellCharacter();
+        tellCharacterErrors();
         tellChapter();
+        tellChapterErrors();
         tellJury();
         sign();
         append();
-        readEveryCommand();
-        readFaults();
-        readNumbers();
-        readIsAllOrNone();
-        readTakesNothingForAnAnswer();
-        readOfAFullText();
+        appendToAFullText();
         refusal();
+        refusalOfTheLast();
         account();
+        accountAtItsMost();
+        accountErrors();
         isWell();
         share();
-        Check.close("TextsTest");
+        everyShare();
+        Check.close("TextsTest", 25, 26, 27, 28, 29, 31, 32, 33, 34);
     }
 
     private static void tellCharacter() {
-        StoryCoroner x = Check.book(3, 0);
-        Check.due("tellCharacter(3)", x.tellCharacter(3), StoryCoroner.NONE);
-        Check.due("tellCharacter(-1)", x.tellCharacter(-1), StoryCoroner.NONE);
-        Check.due("no line", Check.line(x), "");
-        Check.due("tellCharacter(2)", x.tellCharacter(2), 2);
-        Check.due("line", Check.line(x), "2:");
-        Check.read(x, "d2@5;r2@9;d2@12;m02=9;m12=9;j0=1;t020");
-        Check.due("tellCharacter(2)", x.tellCharacter(2), 11);
-        Check.due("line", Check.line(x), "2:+5=0^9+12");
-        Check.read(x, "r2@13;d2@29;r2@30;t121;t022");
-        Check.due("tellCharacter(2)", x.tellCharacter(2), 24);
-        Check.due("the longest line", Check.line(x), "2:+5=0^9+12=1^13+29=0^30");
-        x.tellCharacter(3);
-        Check.due("an error leaves the line", Check.line(x), "2:+5=0^9+12=1^13+29=0^30");
+        Check.promise(25, "the number and \":\"; returns its length");
+        StoryCoroner x = Check.book(8, 0, "seat(0, 1)");
+        for (int k = 0; k < 8; k++) {
+            Check.lineDue(x, "tellCharacter(" + k + ")", k + ":");
+        }
+        Check.promise(25, "for each death \"+\", for each rising \"^\", with the chapter behind it");
+        Check.run(x, "die(2, 5)");
+        Check.lineDue(x, "tellCharacter(2)", "2:+5");
+        Check.run(x, "rise(2, 9)");
+        Check.lineDue(x, "tellCharacter(2)", "2:+5^9");
+        Check.run(x, "die(2, 12)");
+        Check.lineDue(x, "tellCharacter(2)", "2:+5^9+12");
+        Check.promise(25, "behind a death that is solved \"=\" and the culprit");
+        Check.run(x, "motive(0, 2, 9); trial(0, 2, 0)");
+        Check.lineDue(x, "tellCharacter(2)", "2:+5=0^9+12");
+        Check.run(x, "motive(7, 2, 9); trial(7, 2, 1)");
+        Check.lineDue(x, "tellCharacter(2)", "2:+5=0^9+12=7");
+        Check.promise(25, "chapters of one digit and of two");
+        Check.lineDue(Check.book(1, 0, "die(0, 1); rise(0, 9); die(0, 10); rise(0, 11); die(0, 29); rise(0, 30)"),
+            "tellCharacter(0)", "0:+1^9+10^11+29^30");
+        Check.lineDue(Check.book(1, 0, "die(0, 19); rise(0, 20)"), "tellCharacter(0)", "0:+19^20");
+        Check.promise(25, "the longest line");
+        StoryCoroner y = Check.book(8, 0, "die(7, 10); rise(7, 11); die(7, 12); rise(7, 13); die(7, 29); rise(7, 30)");
+        Check.run(y, "motive(6, 7, 9); seat(0, 1); trial(6, 7, 0); trial(6, 7, 1); trial(6, 7, 2)");
+        Check.lineDue(y, "tellCharacter(7)", "7:+10=6^11+12=6^13+29=6^30");
+        Check.promise(25, "in place of the line before");
+        Check.lineDue(y, "tellCharacter(6)", "6:");
+        Check.lineDue(y, "tellCharacter(7)", "7:+10=6^11+12=6^13+29=6^30");
+    }
+
+    private static void tellCharacterErrors() {
+        Check.promise(25, "NONE if there is no such character, and the line stays");
+        Check.due(new StoryCoroner(), "tellCharacter(0)", NONE);
+        StoryCoroner x = Check.book(2, 4, "die(1, 4); tellCharacter(1)");
+        Check.due(x, "tellCharacter(2)", NONE);
+        Check.outside(x, "tellCharacter(?)", 0, 7, NONE);
+        Check.due("the line", Check.line(x), "1:+4");
+        Check.outside(Check.book(8, 0), "tellCharacter(?)", 0, 7, NONE);
     }
 
     private static void tellChapter() {
-        StoryCoroner x = Check.book(8, 2);
-        Check.due("tellChapter(0)", x.tellChapter(0), StoryCoroner.BAD);
-        Check.due("tellChapter(31)", x.tellChapter(31), StoryCoroner.BAD);
-        x.die(0, 12);
-        x.die(2, 10);
-        x.rise(0, 14);
-        x.tellChapter(12);
-        Check.due("without an author", Check.line(x), "12:0,2");
-        x.write(12, 1);
-        x.tellChapter(12);
-        Check.due("with an author", Check.line(x), "12@1:0,2");
-        x.swear(1, 1);
-        Check.due("length", x.tellChapter(12), 9);
-        Check.due("with a sworn one", Check.line(x), "12@1!:0,2");
-        x.tellChapter(14);
-        Check.due("with one of them", Check.line(x), "14:2");
-        x.tellChapter(9);
-        Check.due("with nobody", Check.line(x), "9:");
-        x.tellChapter(10);
-        Check.due("two digits", Check.line(x), "10:2");
-        for (int character = 0; character < 8; character++) {
-            x.die(character, 30);
+        Check.promise(26, "its number, \":\" and the numbers of those who are dead in it, with \",\" between two");
+        StoryCoroner x = Check.book(8, 4, "die(0, 12); die(2, 10); rise(0, 14)");
+        Check.lineDue(x, "tellChapter(9)", "9:");
+        Check.lineDue(x, "tellChapter(10)", "10:2");
+        Check.lineDue(x, "tellChapter(11)", "11:2");
+        Check.lineDue(x, "tellChapter(12)", "12:0,2");
+        Check.lineDue(x, "tellChapter(13)", "13:0,2");
+        Check.lineDue(x, "tellChapter(14)", "14:2");
+        Check.promise(26, "\"@\" and its author, if there is one");
+        Check.run(x, "write(12, 1); write(1, 0); write(30, 3)");
+        Check.lineDue(x, "tellChapter(12)", "12@1:0,2");
+        Check.lineDue(x, "tellChapter(1)", "1@0:");
+        Check.lineDue(x, "tellChapter(30)", "30@3:2");
+        Check.lineDue(x, "tellChapter(13)", "13:0,2");
+        Check.promise(26, "\"!\" if that one is sworn");
+        Check.run(x, "swear(0, 1); swear(3, 1)");
+        Check.lineDue(x, "tellChapter(12)", "12@1:0,2");
+        Check.lineDue(x, "tellChapter(1)", "1@0!:");
+        Check.lineDue(x, "tellChapter(30)", "30@3!:2");
+        Check.lineDue(x, "tellChapter(29)", "29:2");
+        Check.run(x, "swear(1, 1); swear(3, 0)");
+        Check.lineDue(x, "tellChapter(12)", "12@1!:0,2");
+        Check.lineDue(x, "tellChapter(30)", "30@3:2");
+        Check.promise(26, "the longest line, with all 8");
+        for (int k = 0; k < 8; k++) {
+            Check.run(x, k == 2 ? "rise(2, 29); die(2, 30)" : "die(" + k + ", 30)");
         }
-        x.write(30, 1);
-        Check.due("length", x.tellChapter(30), 21);
-        Check.due("with all", Check.line(x), "30@1!:0,1,2,3,4,5,6,7");
-        x.tellChapter(31);
-        Check.due("an error leaves the line", Check.line(x), "30@1!:0,1,2,3,4,5,6,7");
+        Check.run(x, "swear(3, 1)");
+        Check.lineDue(x, "tellChapter(30)", "30@3!:0,1,2,3,4,5,6,7");
+        Check.promise(26, "in place of the line before");
+        Check.lineDue(x, "tellChapter(2)", "2:");
+    }
+
+    private static void tellChapterErrors() {
+        Check.promise(26, "BAD if there is no such chapter, and the line stays");
+        StoryCoroner x = Check.book(2, 1, "die(1, 30); tellChapter(30)");
+        Check.outside(x, "tellChapter(?)", 1, 30, BAD);
+        Check.due("the line", Check.line(x), "30:1");
+        Check.outside(new StoryCoroner(), "tellChapter(?)", 1, 30, BAD);
+        Check.promise(26, "the chapters are 1 to 30, in a book without characters, too");
+        for (int chapter = 1; chapter <= 30; chapter++) {
+            Check.lineDue(new StoryCoroner(), "tellChapter(" + chapter + ")", chapter + ":");
+        }
     }
 
     private static void tellJury() {
+        Check.promise(27, "for each seat from 0 to 6 the severity, or \".\" for an empty one");
+        Check.lineDue(new StoryCoroner(), "tellJury()", ".......");
+        Check.lineDue(Check.book(0, 0, "seat(0, 5); seat(2, 9); seat(3, 3)"), "tellJury()", "5.93...");
+        for (int seat = 0; seat < 7; seat++) {
+            String want = ".......".substring(0, seat) + (seat + 1) + ".......".substring(seat + 1);
+            Check.lineDue(Check.book(0, 0, "seat(" + seat + ", " + (seat + 1) + ")"), "tellJury()", want);
+        }
         StoryCoroner x = new StoryCoroner();
-        x.seat(0, 5);
-        x.seat(2, 9);
-        x.seat(3, 3);
-        Check.due("length", x.tellJury(), 7);
-        Check.due("line", Check.line(x), "5.93...");
-        x.seat(6, 1);
-        x.leave(0);
-        Check.due("the line stays until it is told", Check.line(x), "5.93...");
-        x.tellJury();
-        Check.due("line", Check.line(x), "..93..1");
+        for (int seat = 0; seat < 7; seat++) {
+            Check.run(x, "seat(" + seat + ", " + (9 - seat) + ")");
+        }
+        Check.lineDue(x, "tellJury()", "9876543");
+        Check.promise(27, "in place of the line before, which stays until then");
+        Check.run(x, "leave(0); leave(6)");
+        Check.due("the line", Check.line(x), "9876543");
+        Check.lineDue(x, "tellJury()", ".87654.");
     }
 
     private static void sign() {
+        Check.promise(28, "the line is empty at first: NONE");
         StoryCoroner x = Check.book(1, 0);
-        Check.due("sign(0) at first", x.sign(0), StoryCoroner.NONE);
-        x.tellJury();
-        Check.due("sign(6)", x.sign(6), '.');
-        Check.due("sign(7)", x.sign(7), StoryCoroner.NONE);
-        Check.due("sign(-1)", x.sign(-1), StoryCoroner.NONE);
-        x.tellCharacter(0);
-        Check.due("sign(0)", x.sign(0), '0');
-        Check.due("sign(1)", x.sign(1), ':');
-        Check.due("a shorter line", x.sign(2), StoryCoroner.NONE);
+        Check.due(x, "sign(0)", NONE);
+        Check.due(x, "sign(-1)", NONE);
+        Check.promise(28, "returns its code, the index from 0");
+        Check.run(x, "seat(0, 4); seat(6, 7); tellJury()");
+        Check.due(x, "sign(0)", '4');
+        Check.due(x, "sign(1)", '.');
+        Check.due(x, "sign(6)", '7');
+        Check.promise(28, "NONE if there is no such index");
+        Check.due(x, "sign(7)", NONE);
+        Check.outside(x, "sign(?)", 0, 69, NONE);
+        Check.promise(28, "no index is left of a longer line before");
+        Check.run(x, "tellCharacter(0)");
+        Check.due(x, "sign(0)", '0');
+        Check.due(x, "sign(1)", ':');
+        Check.due(x, "sign(2)", NONE);
+        Check.due(x, "sign(6)", NONE);
     }
 
     private static void append() {
+        Check.promise(29, "the code of the character, 32 to 126; returns the length of the text");
         StoryCoroner x = new StoryCoroner();
-        Check.due("append(31)", x.append(31), StoryCoroner.BAD);
-        Check.due("append(127)", x.append(127), StoryCoroner.BAD);
-        Check.due("append(-1)", x.append(-1), StoryCoroner.BAD);
-        Check.due("append(32)", x.append(32), 1);
-        Check.due("append(126)", x.append(126), 2);
-        for (int i = 3; i <= 70; i++) {
-            Check.due("append", x.append('c'), i);
+        Check.due(x, "append(32)", 1);
+        Check.due(x, "append(126)", 2);
+        for (int from = 32; from <= 126; from += 60) {
+            StoryCoroner y = new StoryCoroner();
+            for (int code = from; code < from + 60 && code <= 126; code++) {
+                Check.due(y, "append(" + code + ")", code - from + 1);
+            }
         }
-        Check.due("append to a full text", x.append('c'), StoryCoroner.BAD);
-        Check.due("its length", x.account(9), 70);
-        x.read();
-        Check.due("append after read", x.append('c'), 1);
+        Check.promise(29, "BAD if the code is out of range, and nothing is appended");
+        Check.outside(x, "append(?)", 32, 126, BAD);
+        Check.outside(x, "append(?)", 32, 126, BAD);
+        Check.due(x, "append(10)", BAD);
+        Check.due(x, "append(0)", BAD);
+        Check.due(x, "account(9)", 2);
+        Check.due(x, "append(99)", 3);
+        Check.promise(29, "appends at the end");
+        Check.readDue(Check.book(0, 0, "append(99); append(59)"), "c", 2);
+        Check.promise(29, "the text is empty after read, be it right or wrong");
+        Check.due(x, "read()", -100);
+        Check.due(x, "append(99)", 1);
+        Check.due(x, "read()", 1);
+        Check.due(x, "append(99)", 1);
     }
 
-    private static void readEveryCommand() {
+    private static void appendToAFullText() {
+        Check.promise(29, "BAD if the text has 70 characters");
         StoryCoroner x = new StoryCoroner();
-        Check.due("c, a", Check.read(x, "c;c;a"), 3);
-        Check.due("characters", x.account(0), 2);
-        Check.due("authors", x.account(1), 1);
-        Check.due("d, r, d", Check.read(x, "d0@05;r0@7;d0@30"), 3);
-        x.tellCharacter(0);
-        Check.due("line", Check.line(x), "0:+5^7+30");
-        Check.due("x", Check.read(x, "x0"), 1);
-        x.tellCharacter(0);
-        Check.due("line", Check.line(x), "0:+5^7");
-        Check.due("w, o", Check.read(x, "w05@0;o0+"), 2);
-        x.tellChapter(5);
-        Check.due("line", Check.line(x), "5@0!:0");
-        Check.due("o", Check.read(x, "o0-"), 1);
-        Check.due("sworn", x.account(8), 0);
-        Check.due("m", Check.read(x, "m10=4"), 1);
-        Check.due("pages", x.pages(1, 0), 4);
-        Check.due("j", Check.read(x, "j6=4;j3=9"), 2);
-        x.tellJury();
-        Check.due("line", Check.line(x), "...9..4");
-        Check.due("t, not guilty", Check.read(x, "t100"), 1);
-        Check.due("solved", x.account(4), 0);
-        Check.due("j, t", Check.read(x, "j3-;t100"), 2);
-        Check.due("culprit", x.deathOf(0, 0, 1), 1);
-        Check.due("m to 0", Check.read(x, "m10=0"), 1);
-        Check.due("pages", x.pages(1, 0), 0);
-        Check.due("nothing was refused", x.refusal(0), StoryCoroner.NOTHING);
-    }
-
-    private static void readFaults() {
-        String[] wrong = {
-            "", "|", ";", "|;", "c;", "c;|", "cc", "c|c", "c;;c", "c;|;c", "e", "|e", " c", "| c",
-            "a0", "a|0", "d", "d|", "d0", "d0|", "d@", "d|@", "d0@", "d0@|", "d0@;", "d0@|;",
-            "d0@123", "d0@12|3", "d01@2", "d0|1@2", "r0+5", "r0|+5", "r0@5 ", "r0@5| ",
-            "x", "x|", "x00", "x0|0", "xc", "x|c", "w", "w|", "w1", "w1|", "w12", "w12|",
-            "w123@0", "w12|3@0", "w12@", "w12@|", "w12@00", "w12@0|0", "w@0", "w|@0",
-            "o0", "o0|", "o0=", "o0|=", "o0+-", "o0+|-", "o+", "o|+", "m0=1", "m0|=1", "m01=", "m01=|",
-            "m01=10", "m01=1|0", "m011", "m01|1", "j0", "j0|", "j0=", "j0=|", "j0+", "j0|+",
-            "j0=12", "j0=1|2", "j0--", "j0-|-", "t00", "t00|", "t0000", "t000|0", "t00;c", "t00|;c",
-            "c;a;t000;d0@4;x", "c;a;t000;d0@4;x|", "C", "|C", "c;d0@4;r0@/", "c;d0@4;r0@|/",
-            "c;d0@4;r0@:", "c;d0@4;r0@|:", "~", "|~",
-        };
-        for (int i = 0; i < wrong.length; i += 2) {
-            StoryCoroner x = new StoryCoroner();
-            Check.due("read of " + wrong[i], Check.read(x, wrong[i]), -100 - wrong[i + 1].indexOf('|'));
-            Check.due("the text is empty then", x.account(9), 0);
-            Check.due("nothing came", x.account(0) + x.account(1) + x.account(10), 0);
-            Check.due("nothing was refused", x.refusal(0), StoryCoroner.NOTHING);
+        Check.type(x, "c;a;".repeat(17));
+        Check.due(x, "append(99)", 69);
+        Check.due(x, "append(32)", 70);
+        Check.due(x, "append(99)", BAD);
+        Check.due(x, "append(31)", BAD);
+        Check.due(x, "append(127)", BAD);
+        Check.due(x, "account(9)", 70);
+        Check.promise(29, "what is appended to a full text does not come in");
+        Check.due(x, "read()", -169);
+        Check.due(x, "account(9)", 0);
+        Check.promise(29, "each of the 70 characters counts");
+        for (int at = 0; at < 70; at++) {
+            StoryCoroner y = new StoryCoroner();
+            Check.type(y, "c;".repeat(35).substring(0, at) + "~" + "c;".repeat(35).substring(at + 1));
+            Check.due("read with a fault at " + at, y.read(), -100 - at);
         }
-    }
-
-    private static void readNumbers() {
-        StoryCoroner x = Check.book(1, 1);
-        Check.due("chapter 0", Check.read(x, "d0@0"), StoryCoroner.BAD);
-        Check.due("chapter 00", Check.read(x, "w00@0"), StoryCoroner.BAD);
-        Check.due("chapter 31", Check.read(x, "d0@31"), StoryCoroner.BAD);
-        Check.due("chapter 99", Check.read(x, "r0@99"), StoryCoroner.BAD);
-        Check.due("no such character", Check.read(x, "d9@4"), StoryCoroner.BAD);
-        Check.due("no such seat", Check.read(x, "j7-"), StoryCoroner.BAD);
-        Check.due("no such seat", Check.read(x, "j8=1"), StoryCoroner.BAD);
-        Check.due("severity 0", Check.read(x, "j0=0"), StoryCoroner.BAD);
-        Check.due("no such author", Check.read(x, "o1+"), StoryCoroner.BAD);
-        Check.due("no such death", Check.read(x, "t000"), StoryCoroner.BAD);
-        Check.due("nothing was refused", x.refusal(0), StoryCoroner.NOTHING);
-        Check.due("chapter 30", Check.read(x, "w30@0"), 1);
-        Check.due("chapter 01", Check.read(x, "w01@0"), 1);
-    }
-
-    private static void readIsAllOrNone() {
-        StoryCoroner x = Check.book(2, 1);
-        x.seat(0, 4);
-        String good = "d0@4;m10=5;t100;w4@0;o0+;j1=3;j0-;c;a";
-        Check.refusedIn(x, "refused at last", Check.read(x, good + ";w4@0"), 5, 0, 9);
-        Check.due("bad at last", Check.read(x, good + ";d0@40"), StoryCoroner.BAD);
-        Check.due("the reason stays", x.refusal(2), 9);
-        Check.due("characters", x.account(0), 2);
-        Check.due("authors", x.account(1), 1);
-        Check.due("deaths", x.account(2), 0);
-        Check.due("who sit", x.account(5), 1);
-        Check.due("trials", x.account(6), 0);
-        Check.due("chapters", x.account(7), 0);
-        Check.due("sworn", x.account(8), 0);
-        Check.due("pages", x.pages(1, 0), 0);
-        Check.due("changes", x.account(10), 4);
-        Check.due("the text is empty", x.account(9), 0);
-        Check.due("all", Check.read(x, good), 9);
-        Check.due("one change", x.account(10), 5);
-        Check.due("trials", x.account(6), 1);
-        Check.due("undo", x.undo(), 4);
-        Check.due("all of it is undone", x.account(0) + x.account(1) + x.account(2) + x.account(6), 3);
-        Check.refusedIn(x, "the first one refused", Check.read(x, "x0;d9@4"), 4, 0, 0);
-        Check.due("the first one bad", Check.read(x, "d9@4;x0"), StoryCoroner.BAD);
-    }
-
-    private static void readTakesNothingForAnAnswer() {
-        StoryCoroner x = new StoryCoroner();
-        Check.due("the author before is NOTHING", Check.read(x, "a;w5@0;c"), 3);
-        Check.due("by an author", x.account(7), 1);
-        Check.due("a character", x.account(0), 1);
-    }
-
-    private static void readOfAFullText() {
-        StoryCoroner x = Check.book(0, 1);
-        StringBuilder full = new StringBuilder();
-        for (int i = 0; i < 17; i++) {
-            full.append(i % 2 == 0 ? "o0+;" : "o0-;");
-        }
-        Check.due("68 characters", Check.read(x, full + "a"), 18);
-        String many = "c;c;c;c;c;c;c;c;a;a;w1@0;w2@0;w3@0;w4@0;w5@0;w6@0;w7@0;w8@0;w9@0;w10@0";
-        Check.due("its length", many.length(), 70);
-        Check.due("70 characters", Check.read(x, many), 20);
-        StringBuilder most = new StringBuilder("c");
-        for (int i = 0; i < 34; i++) {
-            most.append(";c");
-        }
-        StoryCoroner y = new StoryCoroner();
-        Check.refusedIn(y, "35 commands", Check.read(y, most.toString()), 1, 8, 8);
-        Check.due("35 commands, then too early", Check.read(y, most + ";"), -100 - 70);
     }
 
     private static void refusal() {
-        StoryCoroner x = Check.book(1, 0);
-        Check.due("refusal(-1)", x.refusal(-1), StoryCoroner.BAD);
-        Check.due("refusal(3)", x.refusal(3), StoryCoroner.BAD);
-        for (int what = 0; what < 3; what++) {
-            Check.due("nothing was refused", x.refusal(what), StoryCoroner.NOTHING);
+        Check.promise(31, "NOTHING if nothing was refused");
+        StoryCoroner x = Check.book(1, 1);
+        for (int what = 0; what <= 2; what++) {
+            Check.due(x, "refusal(" + what + ")", NOTHING);
         }
-        x.die(0, 40);
-        Check.due("BAD is no refusal", x.refusal(0), StoryCoroner.NOTHING);
-        Check.refusedIn(x, "in a text", Check.read(x, "c;x1"), 4, 0, 1);
-        x.die(0, 2);
-        Check.due("a success leaves it", x.refusal(2), 1);
-        Check.refused(x, "outside", x.die(0, 3), 3, 1);
-        x.undo();
-        x.save();
-        x.restore();
-        Check.due("it stays", x.refusal(0), 3);
-        x.append('q');
-        x.read();
-        Check.due("a wrong text leaves it", x.refusal(2), StoryCoroner.NOTHING);
+        Check.promise(31, "BAD if there is no such what, and ahead of NOTHING");
+        Check.outside(x, "refusal(?)", 0, 2, BAD);
+        Check.promise(31, "an error for no reason is no refusal");
+        Check.due(x, "die(0, 40)", BAD);
+        Check.due(x, "die(9, 4)", NONE);
+        Check.readDue(x, "d0@40", BAD);
+        Check.readDue(x, "d9@4", BAD);
+        Check.readDue(x, "c;", -102);
+        Check.due(x, "undo()", 1);
+        Check.due(x, "author()", 0);
+        Check.due(x, "restore()", NOTHING);
+        Check.due(x, "share()", NOTHING);
+        Check.due(x, "refusal(0)", NOTHING);
+        Check.promise(31, "0 the reason, 1 its detail, 2 NOTHING for another call than read");
+        Check.due(x, "rise(0, 5)", Check.REFUSED);
+        Check.due(x, "refusal(0)", 4);
+        Check.due(x, "refusal(1)", 0);
+        Check.due(x, "refusal(2)", NOTHING);
+        Check.outside(x, "refusal(?)", 0, 2, BAD);
+        Check.promise(31, "2 the number of the command in its text, from 0");
+        Check.readRefused(x, "x0", 4, 0, 0);
+        Check.readRefused(x, "c;x1", 4, 0, 1);
+        Check.readRefused(x, "c;c;c;c;c;c;c;c;c", 1, 8, 7);
+        Check.readRefused(x, "c;c;c;c;c;c;c;a;a;a;a;w1@0;w2@0;w3@0;w4@0;w5@0;x0", 1, 4, 10);
+        Check.readRefused(x, "c;c;c;c;c;c;c;a;a;a;w1@0;w2@0;w3@0;w4@0;w5@0;x0", 4, 0, 15);
+        Check.readRefused(x, "o0+;o0-;".repeat(8) + "x0", 4, 0, 16);
+    }
+
+    private static void refusalOfTheLast() {
+        Check.promise(31, "about what was refused last");
+        StoryCoroner x = Check.book(2, 1);
+        Check.refused(x, "rise(0, 5)", 4, 0);
+        Check.refused(x, "motive(1, 1, 3)", 6, 1);
+        Check.readRefused(x, "m01=4;m01=4", 5, 4, 1);
+        Check.refused(x, "leave(6)", 7, 6);
+        Check.promise(31, "it stays with what succeeds, fails for no reason, is undone or restored");
+        for (String call : new String[] {"seat(0, 1)", "die(0, 40)", "die(9, 1)", "tellJury()", "append(113)", "append(7)",
+            "undo()", "save()", "restore()", "undo()", "isWell()", "refusal(3)", "sign(99)"}) {
+            Check.ask(x, call);
+            Check.refusal(x, call, 7, 6, NOTHING);
+        }
+        Check.readDue(x, "c", -100);
+        Check.refusal(x, "a wrong text", 7, 6, NOTHING);
+        Check.readDue(x, "c", 1);
+        Check.refusal(x, "a text", 7, 6, NOTHING);
+        Check.readRefused(x, "a;j6-", 7, 6, 1);
+        Check.readDue(x, "a;d0@0", BAD);
+        Check.refusal(x, "a bad text", 7, 6, 1);
+        Check.due(x, "write(1, 0)", NOTHING);
+        Check.refusal(x, "a success", 7, 6, 1);
     }
 
     private static void account() {
-        StoryCoroner x = Check.book(3, 2);
-        Check.due("account(-1)", x.account(-1), StoryCoroner.BAD);
-        Check.due("account(11)", x.account(11), StoryCoroner.BAD);
-        Check.read(x, "d0@3;r0@5;d0@6;d1@9;m20=1;j2=1;j4=2;j6=9");
-        Check.read(x, "t200;w4@1;j4-;j6-;t200;w5@1;w5@0;w6@0;o1+");
-        Check.type(x, "c;c");
-        int[] want = {3, 2, 3, 1, 1, 1, 2, 3, 1, 3, 7};
+        Check.promise(32, "0 characters, 1 authors, 2 deaths, 3 risings, 4 solved, 5 readers, 6 trials, 7 chapters by authors,"
+            + " 8 sworn, 9 characters of the text, 10 changes");
+        StoryCoroner x = Check.book(3, 2, "die(0, 3); rise(0, 5); die(0, 6); die(1, 9); motive(2, 0, 1)");
+        Check.run(x, "seat(2, 1); seat(4, 2); seat(6, 9); trial(2, 0, 0); leave(4); leave(6); trial(2, 0, 0)");
+        Check.run(x, "write(4, 1); write(5, 1); write(5, 0); write(6, 0); swear(1, 1); save(); restore(); author()");
+        Check.type(x, "c;c;c");
+        int[] want = {3, 3, 3, 1, 1, 1, 2, 3, 1, 5, 1};
         for (int what = 0; what < want.length; what++) {
-            Check.due("account(" + what + ")", x.account(what), want[what]);
+            Check.due(x, "account(" + what + ")", want[what]);
         }
-        x.die(2, 8);
-        x.die(2, 8);
-        Check.due("account(10)", x.account(10), 8);
-        x.rise(2, 9);
-        Check.due("account(10) at its most", x.account(10), 8);
-        Check.due("account(3)", x.account(3), 2);
+        Check.promise(32, "10 the changes that can be undone: at most 8");
+        for (int i = 2; i <= 12; i++) {
+            Check.run(x, i % 2 == 0 ? "swear(0, 1)" : "swear(0, 0)");
+            Check.due(x, "account(10)", Math.min(i, 8));
+        }
+        Check.promise(32, "9 the characters of the text, up to 70");
+        for (int length = 6; length <= 70; length++) {
+            Check.run(x, "append(99)");
+            Check.due(x, "account(9)", length);
+        }
+    }
+
+    private static void accountAtItsMost() {
+        Check.promise(32, "8 characters, 4 authors, 24 deaths, 24 risings, 24 solved, 7 readers, 30 chapters, 4 sworn");
+        StoryCoroner x = Check.book(8, 4);
+        for (int seat = 0; seat < 7; seat++) {
+            Check.run(x, "seat(" + seat + ", 9)");
+        }
+        for (int chapter = 1; chapter <= 30; chapter++) {
+            Check.run(x, "write(" + chapter + ", " + chapter % 4 + ")");
+        }
+        Check.run(x, "swear(0, 1); swear(1, 1); swear(2, 1); swear(3, 1)");
+        for (int k = 0; k < 8; k++) {
+            Check.run(x, "motive(" + (k + 1) % 8 + ", " + k + ", 7)");
+            for (int death = 0; death < 3; death++) {
+                Check.run(x, "die(" + k + ", " + (4 * death + 1) + "); rise(" + k + ", " + (4 * death + 2) + ")");
+                Check.due(x, "trial(" + (k + 1) % 8 + ", " + k + ", " + death + ")", 1);
+            }
+        }
+        int[] want = {8, 4, 24, 24, 24, 7, 24, 30, 4, 0, 8};
+        for (int what = 0; what < want.length; what++) {
+            Check.due(x, "account(" + what + ")", want[what]);
+        }
+        Check.promise(32, "6 the trials so far, more than there are deaths");
+        StoryCoroner y = Check.book(2, 0, "die(0, 1); motive(1, 0, 1); seat(0, 2)");
+        for (int trials = 1; trials <= 300; trials++) {
+            Check.run(y, "trial(1, 0, 0)");
+        }
+        Check.due(y, "account(6)", 300);
+        Check.run(y, "leave(0)");
+        Check.refused(y, "trial(1, 0, 0)", 10, 300);
+    }
+
+    private static void accountErrors() {
+        Check.promise(32, "BAD if there is no such what");
+        Check.outside(new StoryCoroner(), "account(?)", 0, 10, BAD);
+        Check.outside(Check.book(8, 4), "account(?)", 0, 10, BAD);
     }
 
     private static void isWell() {
+        Check.promise(33, "1 if it is so: of an empty book, and of a full one");
         StoryCoroner x = new StoryCoroner();
-        Check.due("isWell of a new one", x.isWell(), 1);
-        Check.read(x, "c;c;c;d0@1;d1@1;m10=3;m20=3;r0@2;d0@30");
-        Check.due("isWell", x.isWell(), 1);
-        Check.read(x, "x0;x0;x0");
-        Check.due("isWell after strikes", x.isWell(), 1);
-        x.undo();
-        Check.due("isWell after undo", x.isWell(), 1);
+        Check.due(x, "isWell()", 1);
+        for (int k = 0; k < 8; k++) {
+            Check.run(x, "character(); die(" + k + ", " + (k + 1) + ")");
+            Check.due(x, "isWell()", 1);
+        }
+        for (int k = 0; k < 8; k++) {
+            Check.run(x, "rise(" + k + ", " + (k + 2) + "); die(" + k + ", " + (k + 3) + "); rise(" + k + ", 20)");
+            Check.run(x, "motive(" + k + ", " + (k + 1) % 8 + ", " + (k + 2) + ")");
+            Check.run(x, "die(" + k + ", 29); rise(" + k + ", 30)");
+            Check.due(x, "isWell()", 1);
+        }
+        Check.promise(33, "it is so when last ones are struck out, undone and restored");
+        Check.run(x, "save()");
+        for (String call : new String[] {"strike(3)", "strike(3)", "die(3, 21)", "undo()", "undo()", "restore()"}) {
+            Check.run(x, call);
+            Check.due("isWell() after " + call, x.isWell(), 1);
+        }
     }
 
     private static void share() {
-        StoryCoroner x = Check.book(8, 0);
-        Check.due("without deaths", x.share(), StoryCoroner.NOTHING);
-        x.seat(0, 1);
-        int deaths = 0;
-        for (int character = 0; character < 8; character++) {
-            for (int number = 0; number < 3; number++) {
-                x.die(character, 3 * number + 1);
-                deaths++;
-                Check.due("none of " + deaths, x.share(), Float.floatToIntBits(0f / (float) deaths));
-                if (number < 2) {
-                    x.rise(character, 3 * number + 3);
-                }
-            }
-        }
-        int solved = 0;
-        for (int character = 0; character < 8; character++) {
-            int culprit = character == 0 ? 1 : 0;
-            x.motive(culprit, character, 9);
-            for (int number = 0; number < 3; number++) {
-                Check.due("trial", x.trial(culprit, character, number), 1);
-                solved++;
-                Check.due(solved + " of 24", x.share(), Float.floatToIntBits((float) solved / 24f));
-            }
-        }
-        manyShares();
+        Check.promise(34, "NOTHING without deaths");
+        StoryCoroner x = new StoryCoroner();
+        Check.due(x, "share()", NOTHING);
+        Check.run(x, "character(); author(); character(); seat(0, 1); motive(1, 0, 1)");
+        Check.due(x, "share()", NOTHING);
+        Check.promise(34, "the bits of 0, if none is solved, and of 1, if all are");
+        Check.run(x, "die(0, 5)");
+        Check.due(x, "share()", 0);
+        Check.run(x, "trial(1, 0, 0)");
+        Check.due(x, "share()", 0x3f800000);
+        Check.promise(34, "deaths count, and not those who are dead");
+        Check.run(x, "rise(0, 6)");
+        Check.due(x, "share()", 0x3f800000);
+        Check.run(x, "die(0, 7)");
+        Check.due(x, "share()", 0x3f000000);
+        Check.promise(34, "NOTHING when all deaths are struck out");
+        Check.run(x, "strike(0); strike(0); strike(0)");
+        Check.due(x, "share()", NOTHING);
     }
 
-    private static void manyShares() {
-        StoryCoroner x = Check.book(8, 0);
-        x.seat(0, 1);
-        int deaths = 0;
-        int solved = 0;
-        for (int character = 1; character < 8; character++) {
-            x.motive(0, character, 1);
-            x.die(character, 2);
-            deaths++;
-            if (character % 3 != 0) {
-                x.trial(0, character, 0);
-                solved++;
+    /** Each number of deaths from 1 to 24, of which each number is solved; all rise again to be culprits. */
+    private static void everyShare() {
+        Check.promise(34, "the share of the deaths that are solved, both numbers converted to float");
+        for (int deaths = 1; deaths <= 24; deaths++) {
+            StoryCoroner x = Check.book(8, 0, "seat(6, 9)");
+            for (int k = 0; k < 8; k++) {
+                Check.run(x, "motive(" + (k + 1) % 8 + ", " + k + ", 9)");
             }
-            String call = solved + " of " + deaths;
-            Check.due(call, x.share(), Float.floatToIntBits((float) solved / (float) deaths));
+            for (int death = 0; death < deaths; death++) {
+                int chapter = death / 8 * 2 + 1;
+                Check.run(x, "die(" + death % 8 + ", " + chapter + "); rise(" + death % 8 + ", " + (chapter + 1) + ")");
+            }
+            for (int solved = 0; solved <= deaths; solved++) {
+                int want = Float.floatToIntBits((float) solved / (float) deaths);
+                Check.due("share() with " + solved + " of " + deaths, x.share(), want);
+                if (solved < deaths) {
+                    Check.due(x, "trial(" + (solved + 1) % 8 + ", " + solved % 8 + ", " + solved / 8 + ")", 1);
+                }
+            }
         }
     }
 }
