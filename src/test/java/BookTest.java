@@ -36,19 +36,13 @@ public final class BookTest {
             + "write(3, 1); write(4, 1); write(30, 2); write(20, 1); write(10, 1); swear(2, 1)");
     }
 
-    private static void numbersDue(StoryCoroner x, String of, int... want) {
-        for (int what = 0; what < want.length; what++) {
-            Check.due(x, of.replace("?", "" + what), want[what]);
-        }
-    }
-
     private static void characterOf() {
         StoryCoroner x = told();
         Check.promise(13, "0 died, 1 rose, 2 chapters, 3 solved, 4 culprit of, 5 pages of motives, 6 pages against");
-        numbersDue(x, "characterOf(0, ?)", 3, 2, 30 - 4 - 1 - 2, 2, 1, 6, 14);
-        numbersDue(x, "characterOf(1, ?)", 1, 1, 29, 1, 1, 5, 2);
-        numbersDue(x, "characterOf(2, ?)", 1, 0, 29, 0, 1, 9, 4);
-        numbersDue(x, "characterOf(3, ?)", 0, 0, 30, 0, 0, 0, 0);
+        Check.numbersDue(x, "characterOf(0, ?)", 3, 2, 30 - 4 - 1 - 2, 2, 1, 6, 14);
+        Check.numbersDue(x, "characterOf(1, ?)", 1, 1, 29, 1, 1, 5, 2);
+        Check.numbersDue(x, "characterOf(2, ?)", 1, 0, 29, 0, 1, 9, 4);
+        Check.numbersDue(x, "characterOf(3, ?)", 0, 0, 30, 0, 0, 0, 0);
         Check.promise(13, "2 in how many chapters the character lives: from 0 to 30");
         Check.due(Check.book(1, 0), "characterOf(0, 2)", 30);
         Check.due(Check.book(1, 0, "die(0, 1)"), "characterOf(0, 2)", 0);
@@ -66,8 +60,8 @@ public final class BookTest {
             Check.run(x, "motive(7, " + other + ", 9); motive(" + other + ", 7, 9)");
         }
         Check.run(x, "die(7, 1); rise(7, 2); die(7, 3); rise(7, 4); die(7, 5); rise(7, 6)");
-        numbersDue(x, "characterOf(7, ?)", 3, 3, 27, 0, 0, 63, 63);
-        numbersDue(x, "characterOf(0, ?)", 0, 0, 30, 0, 0, 9, 9);
+        Check.numbersDue(x, "characterOf(7, ?)", 3, 3, 27, 0, 0, 63, 63);
+        Check.numbersDue(x, "characterOf(0, ?)", 0, 0, 30, 0, 0, 9, 9);
         Check.promise(13, "the greatest numbers: all 3 deaths solved, the culprit of 21");
         StoryCoroner y = Check.book(8, 0, "seat(0, 1)");
         for (int k = 0; k < 7; k++) {
@@ -76,9 +70,9 @@ public final class BookTest {
                 Check.run(y, "die(" + k + ", " + (3 * death + 2) + ")");
                 Check.run(y, "trial(7, " + k + ", " + death + "); rise(" + k + ", " + (3 * death + 4) + ")");
             }
-            numbersDue(y, "characterOf(" + k + ", ?)", 3, 3, 24, 3, 0, 0, 1);
+            Check.numbersDue(y, "characterOf(" + k + ", ?)", 3, 3, 24, 3, 0, 0, 1);
         }
-        numbersDue(y, "characterOf(7, ?)", 0, 0, 30, 0, 21, 7, 0);
+        Check.numbersDue(y, "characterOf(7, ?)", 0, 0, 30, 0, 21, 7, 0);
         Check.promise(13, "4 of how many deaths the culprit: of each character's own");
         StoryCoroner z = Check.book(3, 0, "die(0, 4); die(2, 4); motive(2, 0, 1); motive(0, 2, 1); seat(0, 1); trial(2, 0, 0)");
         Check.due(z, "characterOf(0, 4)", 0);
@@ -105,12 +99,12 @@ public final class BookTest {
     private static void deathOf() {
         StoryCoroner x = told();
         Check.promise(14, "0 its chapter, 1 the culprit, 2 the author, 3 how many could, 4 the chapter of the next rising");
-        numbersDue(x, "deathOf(0, 0, ?)", 3, 1, 1, 2, 7);
-        numbersDue(x, "deathOf(0, 1, ?)", 10, NOTHING, 1, 2, 11);
-        numbersDue(x, "deathOf(1, 0, ?)", 20, 0, 1, 1, 21);
+        Check.numbersDue(x, "deathOf(0, 0, ?)", 3, 1, 1, 2, 7);
+        Check.numbersDue(x, "deathOf(0, 1, ?)", 10, NOTHING, 1, 2, 11);
+        Check.numbersDue(x, "deathOf(1, 0, ?)", 20, 0, 1, 1, 21);
         Check.promise(14, "NOTHING if it is not solved, without an author, if there is no rising");
-        numbersDue(x, "deathOf(0, 2, ?)", 29, 2, NOTHING, 2, NOTHING);
-        numbersDue(x, "deathOf(2, 0, ?)", 30, NOTHING, 2, 0, NOTHING);
+        Check.numbersDue(x, "deathOf(0, 2, ?)", 29, 2, NOTHING, 2, NOTHING);
+        Check.numbersDue(x, "deathOf(2, 0, ?)", 30, NOTHING, 2, 0, NOTHING);
         Check.promise(14, "3 how many could have caused it: not who is dead in the chapter ahead");
         Check.run(x, "die(1, 28)");
         Check.due(x, "deathOf(0, 2, 3)", 1);
@@ -130,8 +124,8 @@ public final class BookTest {
         Check.promise(14, "0 the first and the last chapter, 2 the last author, 1 the first and the last character");
         StoryCoroner x = Check.book(8, 4, "die(6, 1); rise(6, 2); die(6, 30); write(1, 3); write(30, 0); seat(0, 1)");
         Check.run(x, "motive(7, 6, 1); motive(0, 6, 1); trial(0, 6, 0); trial(7, 6, 1)");
-        numbersDue(x, "deathOf(6, 0, ?)", 1, 0, 3, 2, 2);
-        numbersDue(x, "deathOf(6, 1, ?)", 30, 7, 0, 2, NOTHING);
+        Check.numbersDue(x, "deathOf(6, 0, ?)", 1, 0, 3, 2, 2);
+        Check.numbersDue(x, "deathOf(6, 1, ?)", 30, 7, 0, 2, NOTHING);
         Check.promise(14, "3 how many could have caused it: from none to 7");
         StoryCoroner y = Check.book(8, 0, "die(7, 9)");
         for (int k = 0; k < 7; k++) {
@@ -164,16 +158,16 @@ public final class BookTest {
     private static void authorOf() {
         StoryCoroner x = told();
         Check.promise(15, "0 if sworn, 1 how many chapters, 2 how many deaths are in them, 3 how many of these are solved");
-        numbersDue(x, "authorOf(0, ?)", 0, 0, 0, 0);
-        numbersDue(x, "authorOf(1, ?)", 0, 4, 3, 2);
-        numbersDue(x, "authorOf(2, ?)", 1, 1, 1, 0);
+        Check.numbersDue(x, "authorOf(0, ?)", 0, 0, 0, 0);
+        Check.numbersDue(x, "authorOf(1, ?)", 0, 4, 3, 2);
+        Check.numbersDue(x, "authorOf(2, ?)", 1, 1, 1, 0);
         Check.promise(15, "2 risings and the chapters in which one is dead are no deaths");
         Check.run(x, "write(11, 0); write(5, 0)");
-        numbersDue(x, "authorOf(0, ?)", 0, 2, 0, 0);
+        Check.numbersDue(x, "authorOf(0, ?)", 0, 2, 0, 0);
         Check.promise(15, "2 the deaths of a chapter by another author then are that one's");
         Check.run(x, "write(3, 2)");
-        numbersDue(x, "authorOf(1, ?)", 0, 3, 2, 1);
-        numbersDue(x, "authorOf(2, ?)", 1, 2, 2, 1);
+        Check.numbersDue(x, "authorOf(1, ?)", 0, 3, 2, 1);
+        Check.numbersDue(x, "authorOf(2, ?)", 1, 2, 2, 1);
     }
 
     private static void authorOfAtItsMost() {
@@ -187,16 +181,16 @@ public final class BookTest {
             Check.run(x, "motive(" + (k + 1) % 8 + ", " + k + ", 9)");
             Check.run(x, "die(" + k + ", 1); rise(" + k + ", 2); die(" + k + ", 3); rise(" + k + ", 29); die(" + k + ", 30)");
         }
-        numbersDue(x, "authorOf(3, ?)", 0, 30, 24, 0);
+        Check.numbersDue(x, "authorOf(3, ?)", 0, 30, 24, 0);
         for (int k = 0; k < 8; k++) {
             String trial = "trial(" + (k + 1) % 8 + ", " + k + ", ";
             Check.run(x, trial + "0); " + trial + "1); " + trial + "2)");
         }
-        numbersDue(x, "authorOf(3, ?)", 0, 30, 24, 24);
-        numbersDue(x, "authorOf(0, ?)", 0, 0, 0, 0);
+        Check.numbersDue(x, "authorOf(3, ?)", 0, 30, 24, 24);
+        Check.numbersDue(x, "authorOf(0, ?)", 0, 0, 0, 0);
         Check.promise(15, "2 two deaths in one chapter are two");
         StoryCoroner y = Check.book(2, 1, "die(0, 9); die(1, 9); write(9, 0)");
-        numbersDue(y, "authorOf(0, ?)", 0, 1, 2, 0);
+        Check.numbersDue(y, "authorOf(0, ?)", 0, 1, 2, 0);
     }
 
     private static void authorOfErrors() {

@@ -94,10 +94,7 @@ public final class CharactersTest {
 
     private static void isAsNew(StoryCoroner x) {
         Check.lineDue(x, "tellCharacter(1)", "1:");
-        int[] want = {0, 0, 30, 0, 0, 0, 0};
-        for (int what = 0; what < want.length; what++) {
-            Check.due(x, "characterOf(1, " + what + ")", want[what]);
-        }
+        Check.numbersDue(x, "characterOf(1, ?)", 0, 0, 30, 0, 0, 0, 0);
         Check.due(x, "die(1, 2)", 1);
         Check.due(x, "deathOf(1, 0, 1)", NOTHING);
     }

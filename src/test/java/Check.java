@@ -90,6 +90,13 @@ final class Check {
         }
     }
 
+    /** The call with each number from 0 on in place of "?", with the answers that are due in their order. */
+    static void numbersDue(StoryCoroner x, String call, int... want) {
+        for (int what = 0; what < want.length; what++) {
+            due(x, call.replace("?", "" + what), want[what]);
+        }
+    }
+
     /** Answers the call that is written so. */
     static int ask(StoryCoroner x, String call) {
         int open = call.indexOf('(');

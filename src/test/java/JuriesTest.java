@@ -25,6 +25,7 @@ public final class JuriesTest {
         suspectWithTheMostPages();
         suspectOfEachDeath();
         guilty();
+        whicheverIsLower();
         guiltyErrors();
         would();
         wouldWithAllSeats();
@@ -413,6 +414,23 @@ public final class JuriesTest {
         StoryCoroner y = Check.book(2, 0, CASE + "; seat(2, 5); trial(1, 0, 0)");
         Check.due(y, "guilty(1, 0, 0)", 1);
         Check.due(y, "account(6)", 1);
+    }
+
+    private static void whicheverIsLower() {
+        StoryCoroner x = Check.book(8, 0, "die(7, 5); die(0, 5); motive(0, 7, 3); motive(7, 0, 6); seat(0, 3)");
+        Check.promise(22, "whichever of both has the lower number");
+        Check.due(x, "guilty(0, 7, 0)", 1);
+        Check.due(x, "guilty(7, 0, 0)", 1);
+        Check.promise(23, "whichever of both has the lower number");
+        Check.due(x, "would(0, 3, 0, 7, 0)", 1);
+        Check.due(x, "would(0, 4, 0, 7, 0)", 0);
+        Check.due(x, "would(0, 6, 7, 0, 0)", 1);
+        Check.due(x, "would(0, 7, 7, 0, 0)", 0);
+        Check.promise(12, "whichever of both has the lower number");
+        Check.due(x, "trial(0, 7, 0)", 1);
+        Check.due(x, "trial(7, 0, 0)", 1);
+        Check.lineDue(x, "tellCharacter(0)", "0:+5=7");
+        Check.lineDue(x, "tellCharacter(7)", "7:+5=0");
     }
 
     private static void guiltyErrors() {

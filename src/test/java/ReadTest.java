@@ -87,10 +87,7 @@ public final class ReadTest {
         Check.readDue(x, "c;a;d0@4;w1@0;o0+;j0=1;", -123);
         Check.readDue(x, "x0;x0;", -106);
         Check.readDue(x, "x0;d0@40;q", -109);
-        int[] want = {1, 1, 0, 0, 0, 0, 0, 0, 0, 0, 2};
-        for (int what = 0; what < want.length; what++) {
-            Check.due(x, "account(" + what + ")", want[what]);
-        }
+        Check.numbersDue(x, "account(?)", 1, 1, 0, 0, 0, 0, 0, 0, 0, 0, 2);
         Check.due(x, "refusal(0)", NOTHING);
     }
 
@@ -252,10 +249,7 @@ public final class ReadTest {
         asBefore(x);
         Check.promise(30, "all: the same text without it");
         Check.readDue(x, good, 9);
-        int[] want = {3, 2, 1, 0, 1, 1, 1, 1, 1, 0, 5};
-        for (int what = 0; what < want.length; what++) {
-            Check.due(x, "account(" + what + ")", want[what]);
-        }
+        Check.numbersDue(x, "account(?)", 3, 2, 1, 0, 1, 1, 1, 1, 1, 0, 5);
         Check.lineDue(x, "tellJury()", ".3.....");
         Check.lineDue(x, "tellCharacter(0)", "0:+4=1");
         Check.lineDue(x, "tellChapter(4)", "4@0!:0");
@@ -263,10 +257,7 @@ public final class ReadTest {
     }
 
     private static void asBefore(StoryCoroner x) {
-        int[] want = {2, 1, 0, 0, 0, 1, 0, 0, 0, 0, 4};
-        for (int what = 0; what < want.length; what++) {
-            Check.due(x, "account(" + what + ")", want[what]);
-        }
+        Check.numbersDue(x, "account(?)", 2, 1, 0, 0, 0, 1, 0, 0, 0, 0, 4);
         Check.due(x, "pages(1, 0)", 0);
         Check.lineDue(x, "tellJury()", "4......");
         Check.lineDue(x, "tellCharacter(0)", "0:");
@@ -278,10 +269,7 @@ public final class ReadTest {
         Check.readDue(x, "c;c;a;a;d0@4;r0@5;d0@6;m01=3;j0=9;w1@1", 10);
         Check.due(x, "account(10)", 2);
         Check.due(x, "undo()", 1);
-        int[] want = {1, 0, 0, 0, 0, 0, 0, 0, 0, 0, 1};
-        for (int what = 0; what < want.length; what++) {
-            Check.due(x, "account(" + what + ")", want[what]);
-        }
+        Check.numbersDue(x, "account(?)", 1, 0, 0, 0, 0, 0, 0, 0, 0, 0, 1);
         Check.readDue(x, "c", 1);
         Check.due(x, "pages(0, 1)", 0);
         Check.lineDue(x, "tellCharacter(0)", "0:");

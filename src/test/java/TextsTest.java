@@ -264,10 +264,7 @@ public final class TextsTest {
         Check.run(x, "seat(2, 1); seat(4, 2); seat(6, 9); trial(2, 0, 0); leave(4); leave(6); trial(2, 0, 0)");
         Check.run(x, "write(4, 1); write(5, 1); write(5, 0); write(6, 0); swear(1, 1); save(); restore(); author()");
         Check.type(x, "c;c;c");
-        int[] want = {3, 3, 3, 1, 1, 1, 2, 3, 1, 5, 1};
-        for (int what = 0; what < want.length; what++) {
-            Check.due(x, "account(" + what + ")", want[what]);
-        }
+        Check.numbersDue(x, "account(?)", 3, 3, 3, 1, 1, 1, 2, 3, 1, 5, 1);
         Check.promise(32, "10 the changes that can be undone: at most 8");
         for (int i = 2; i <= 12; i++) {
             Check.run(x, i % 2 == 0 ? "swear(0, 1)" : "swear(0, 0)");
@@ -297,10 +294,7 @@ public final class TextsTest {
                 Check.due(x, "trial(" + (k + 1) % 8 + ", " + k + ", " + death + ")", 1);
             }
         }
-        int[] want = {8, 4, 24, 24, 24, 7, 24, 30, 4, 0, 8};
-        for (int what = 0; what < want.length; what++) {
-            Check.due(x, "account(" + what + ")", want[what]);
-        }
+        Check.numbersDue(x, "account(?)", 8, 4, 24, 24, 24, 7, 24, 30, 4, 0, 8);
         Check.promise(32, "6 the trials so far, more than there are deaths");
         StoryCoroner y = Check.book(2, 0, "die(0, 1); motive(1, 0, 1); seat(0, 2)");
         for (int trials = 1; trials <= 300; trials++) {

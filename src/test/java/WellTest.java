@@ -1,11 +1,12 @@
 import java.lang.reflect.Field;
 
-/** Promise 33: a book whose insides were spoilt is not well. */
+/** Promise 33: no calls make a book that is not well, so that the insides of one are spoilt. */
 public final class WellTest {
     public static void main(String[] args) throws Exception {
         laterThanTheOneAhead();
         everyTurn();
-        Check.close("WellTest");
+        suspectsOfAllDeaths();
+        Check.close("WellTest", 33);
     }
 
     private static Object held(Object owner, String name) throws Exception {
@@ -14,14 +15,14 @@ public final class WellTest {
         return f.get(owner);
     }
 
-    private static int[] chapters(StoryCoroner x) throws Exception {
-        return (int[]) held(held(held(x, "book"), "chapters"), "cells");
+    private static int[] cells(StoryCoroner x, String row) throws Exception {
+        return (int[]) held(held(held(x, "book"), row), "cells");
     }
 
     private static void laterThanTheOneAhead() throws Exception {
-        StoryCoroner x = Check.book(3, 0);
-        Check.read(x, "d1@4;r1@8;d1@12;d2@4;r2@8");
-        int[] chapters = chapters(x);
+        Check.promise(33, "each in a later chapter than the one ahead, of all characters");
+        StoryCoroner x = Check.book(3, 0, "die(1, 4); rise(1, 8); die(1, 12); die(2, 4); rise(2, 8)");
+        int[] chapters = cells(x, "chapters");
         int[] good = chapters.clone();
         for (int turn = 0; turn < good.length; turn++) {
             for (int spoilt = 0; spoilt <= 31; spoilt++) {
@@ -42,12 +43,37 @@ public final class WellTest {
     }
 
     private static void everyTurn() throws Exception {
-        StoryCoroner x = Check.book(1, 0);
-        Check.read(x, "d0@4;r0@8");
-        int[] chapters = chapters(x);
+        Check.promise(33, "deaths and risings come in turns");
+        StoryCoroner x = Check.book(1, 0, "die(0, 4); rise(0, 8)");
+        int[] chapters = cells(x, "chapters");
         chapters[1] = 4;
         Check.due("both in one chapter", x.isWell(), 0);
         chapters[0] = 3;
         Check.due("one later than the other", x.isWell(), 1);
+    }
+
+    /** Ten pages are more than a motive can have: the way by pages begins below them. */
+    private static void suspectsOfAllDeaths() throws Exception {
+        Check.promise(33, "the suspect is told alike by both ways for all deaths");
+        StoryCoroner x = Check.book(8, 0, "die(0, 4); die(3, 9); rise(3, 10); die(3, 20); die(7, 20); die(6, 12)");
+        int[] motives = cells(x, "motives");
+        for (int one = 0; one < 8; one++) {
+            for (int other = 0; other < 8; other++) {
+                motives[8 * one + other] = 10;
+                Check.due(one + " against " + other, x.isWell(), couldCauseOne(x, one, other) ? 0 : 1);
+                motives[8 * one + other] = 0;
+            }
+        }
+        Check.due("as it was", x.isWell(), 1);
+    }
+
+    private static boolean couldCauseOne(StoryCoroner x, int one, int other) {
+        for (int death = 0; death < 3; death++) {
+            int chapter = x.deathOf(other, death, 0);
+            if (chapter > 1 && (x.dead(chapter - 1) >> one & 1) == 0) {
+                return true;
+            }
+        }
+        return false;
     }
 }
