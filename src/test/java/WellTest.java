@@ -1,4 +1,5 @@
 import java.lang.reflect.Field;
+import java.lang.reflect.Method;
 
 /** Promise 33: no calls make a book that is not well, so that the insides of one are spoilt. */
 public final class WellTest {
@@ -6,6 +7,7 @@ public final class WellTest {
         laterThanTheOneAhead();
         everyTurn();
         suspectsOfAllDeaths();
+        deadInAllChapters();
         Check.close("WellTest", 33);
     }
 
@@ -75,5 +77,27 @@ public final class WellTest {
             }
         }
         return false;
+    }
+
+    /** A book whose turns are not in order is not well for that alone, so that the comparison itself is asked. */
+    private static void deadInAllChapters() throws Exception {
+        Check.promise(33, "who is dead is told alike by both ways for all chapters");
+        for (int chapter = 1; chapter <= 30; chapter++) {
+            StoryCoroner x = Check.book(8, 0, "die(7, 4); rise(7, 8); die(7, 12)");
+            Check.due("dead alike", agree(x) ? 1 : 0, 1);
+            int[] chapters = cells(x, "chapters");
+            int first = 7 * 6;
+            chapters[first] = chapter;
+            chapters[first + 1] = chapter - 1;
+            chapters[first + 2] = chapter + 1;
+            Check.due("dead alike in all but " + chapter, agree(x) ? 1 : 0, 0);
+        }
+    }
+
+    private static boolean agree(StoryCoroner x) throws Exception {
+        Object inquest = held(x, "inquest");
+        Method compare = inquest.getClass().getDeclaredMethod("deadAgree");
+        compare.setAccessible(true);
+        return (boolean) compare.invoke(inquest);
     }
 }
